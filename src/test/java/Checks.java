@@ -1,0 +1,151 @@
+import java.util.NoSuchElementException;
+
+/** What the tests share: comparing answers, feeding texts, ending with the exit code. */
+final class Checks {
+    /** A call whose exception is of interest. */
+    interface Call {
+        void make();
+    }
+
+    private static int checked = 0;
+    private static int wrong = 0;
+
+    private Checks() {
+    }
+
+    static void due(String call, long got, long want) {
+        checked++;
+        if (got != want) {
+            report(call + " answered " + got + ", due is " + want);
+        }
+    }
+
+    static void due(String call, boolean got, boolean want) {
+        due(call, got ? 1 : 0, want ? 1 : 0);
+    }
+
+    static void due(String call, String got, String want) {
+        checked++;
+        if (!got.equals(want)) {
+            report(call + " answered '" + got + "', due is '" + want + "'");
+        }
+    }
+
+    static void noSuchElement(String call, Call made) {
+        checked++;
+        String thrown = thrownBy(made);
+        if (!thrown.equals(NoSuchElementException.class.getName())) {
+            report(call + " threw " + thrown + ", due is NoSuchElementException");
+        }
+    }
+
+    static void illegalArgument(String call, Call made) {
+        checked++;
+        String thrown = thrownBy(made);
+        if (!thrown.equals(IllegalArgumentException.class.getName())) {
+            report(call + " threw " + thrown + ", due is IllegalArgumentException");
+        }
+    }
+
+    /** The name of the exception's class, since a subclass of it is not what the document names. */
+    private static String thrownBy(Call made) {
+        try {
+            made.make();
+        } catch (RuntimeException e) {
+            return e.getClass().getName();
+        }
+        return "nothing";
+    }
+
+    private static void report(String text) {
+        wrong++;
+        if (wrong <= 50) {
+            System.out.println(text);
+        }
+    }
+
+    static void finish(String test) {
+        System.out.println(test + ": " + checked + " answers checked, " + wrong + " not as due");
+        if (wrong != 0) {
+            System.exit(1);
+        }
+    }
+
+    /** Feeds a text, a byte a character, and spaces up to the next 20 bytes; returns its length. */
+    static int feed(PinEngines engines, String text) {
+        for (int i = 0; i < text.length(); i += 20) {
+            engines.feed(word(text, i), word(text, i + 4), word(text, i + 8), word(text, i + 12),
+                    word(text, i + 16));
+        }
+        return text.length();
+    }
+
+    private static int word(String text, int from) {
+        int word = 0;
+        for (int i = from; i < from + 4; i++) {
+            word = word << 8 | (i < text.length() ? text.charAt(i) : ' ');
+        }
+        return word;
+    }
+
+    static int load(PinEngines engines, String text) {
+        return engines.load(feed(engines, text));
+    }
+
+    static int query(PinEngines engines, String text) {
+        return engines.query(feed(engines, text));
+    }
+
+    /** A new object with this program, which must have no error. */
+    static PinEngines loaded(String text) {
+        PinEngines engines = new PinEngines();
+        int count = load(engines, text);
+        checked++;
+        if (count < 0) {
+            report("load of '" + text + "' answered " + count + " at " + engines.errorPosition());
+        }
+        return engines;
+    }
+
+    static String format(PinEngines engines, int address) {
+        int length = engines.format(address);
+        StringBuilder text = new StringBuilder();
+        for (int i = 0; i < length; i++) {
+            text.append((char) engines.formattedByte(i));
+        }
+        return text.toString();
+    }
+
+    /** The levels of all pins as a mask. */
+    static int levels(PinEngines engines) {
+        int levels = 0;
+        for (int pin = 0; pin < 16; pin++) {
+            levels |= engines.level(pin) << pin;
+        }
+        return levels;
+    }
+
+    static int latches(PinEngines engines) {
+        int latches = 0;
+        for (int pin = 0; pin < 16; pin++) {
+            latches |= engines.latch(pin) << pin;
+        }
+        return latches;
+    }
+
+    static int outputs(PinEngines engines) {
+        int outputs = 0;
+        for (int pin = 0; pin < 16; pin++) {
+            outputs |= engines.isOutput(pin) ? 1 << pin : 0;
+        }
+        return outputs;
+    }
+
+    static int flags(PinEngines engines) {
+        int flags = 0;
+        for (int flag = 0; flag < 8; flag++) {
+            flags |= engines.flag(flag) << flag;
+        }
+        return flags;
+    }
+}
