@@ -148,4 +148,33 @@ final class Checks {
         }
         return flags;
     }
+
+    /** All that the object tells of its state, so that two states can be compared. */
+    static String state(PinEngines x) {
+        StringBuilder s = new StringBuilder();
+        s.append(x.clock()).append(' ').append(levels(x)).append(' ').append(latches(x)).append(' ')
+                .append(outputs(x)).append(' ').append(flags(x)).append(' ').append(x.portOwner());
+        for (int i = 0; i < 16; i++) {
+            s.append(' ').append(x.memory(i)).append(' ').append(x.edges(i)).append(' ').append(x.highTime(i));
+            for (int age = 0; age < 64; age++) {
+                s.append(',').append(x.levelAt(i, age));
+            }
+        }
+        for (int e = 0; e < 4; e++) {
+            if ((x.engines() >> e & 1) == 1) {
+                s.append('\n').append(x.pc(e)).append(' ').append(x.fill(e)).append(' ').append(x.spent(e)).append(' ')
+                        .append(x.delayLeft(e)).append(' ').append(x.stall(e)).append(' ').append(x.isEnabled(e));
+                for (int i = 0; i < 4; i++) {
+                    s.append(' ').append(x.register(e, i));
+                }
+                for (int i = 0; i < 6; i++) {
+                    s.append(' ').append(x.count(e, i));
+                }
+                for (int i = 0; i < 9; i++) {
+                    s.append(' ').append(x.queued(e, false, i)).append(' ').append(x.queued(e, true, i));
+                }
+            }
+        }
+        return s.toString();
+    }
 }
