@@ -219,6 +219,19 @@ public final class CycleTest {
         x.run(1);
         Checks.due("highTime of a scheduled level", x.highTime(3), 12);
         Checks.due("edges of a scheduled level", x.edges(3), 2);
+        PinEngines many = new PinEngines();
+        for (int cycle = 0; cycle < 8; cycle++) {
+            for (int pin = 0; pin < 16; pin++) {
+                many.drive(pin, pin % 4 == 0 ? 1 : pin % 4 == 1 ? cycle & 1 : pin % 4 == 2 ? cycle >> 1 & 1 : 0);
+            }
+            many.run(1);
+        }
+        int[] edges = {1, 7, 3, 0};
+        int[] high = {8, 4, 4, 0};
+        for (int pin = 0; pin < 16; pin++) {
+            Checks.due("edges of pin " + pin, many.edges(pin), edges[pin % 4]);
+            Checks.due("highTime of pin " + pin, many.highTime(pin), high[pin % 4]);
+        }
         Checks.due("highTime of pin 4", x.highTime(4), 0);
         Checks.due("edges of pin 4", x.edges(4), 1);
     }

@@ -103,6 +103,10 @@ public final class ForecastTest {
         x.schedule(500, 2, 1);
         Checks.due("stuck before a scheduled level", x.stuck(499), 5);
         Checks.due("stuck with a scheduled level", x.stuck(500), 1);
+        PinEngines late = Checks.loaded("engine 0 start a;engine 1 start b;a:wait 1 pin 3;b:jmp b;");
+        late.schedule(9, 3, 1);
+        Checks.due("stuck before the last one goes on", late.stuck(9), 1);
+        Checks.due("stuck when the last one goes on", late.stuck(10), 0);
         x.put(0, 4);
         Checks.due("stuck with a word", x.stuck(1), 6);
         PinEngines none = new PinEngines();

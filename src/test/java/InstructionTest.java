@@ -112,6 +112,12 @@ public final class InstructionTest {
         Checks.due("fill", x.fill(0), 9);
         x = ran(4, "inleft", "set x 21;in x 3;in x 5;in x 1;push;");
         Checks.due("I from the right", x.register(0, 2), 0b101_10101_1);
+        x = ran(3, "inleft", "set x 21;in x 2;in x 3;push;");
+        Checks.due("only the lowest bits are shifted in", x.register(0, 2), 0b01_101);
+        x = ran(3, "inleft", "set x 31;in null 2;in x 3;push;");
+        Checks.due("only the lowest bits are shifted in", x.register(0, 2), 0b111);
+        x = ran(3, "", "set x 31;in null 2;in x 3;push;");
+        Checks.due("only the lowest bits are shifted in", x.register(0, 2), 7 << 29);
         x = ran(4, "", "mov x not null;in x 31;in null 1;in x 32;");
         Checks.due("I with 32 bits", x.register(0, 2), -1);
         Checks.due("fill goes up to 32", x.fill(0), 32);
@@ -247,6 +253,19 @@ public final class InstructionTest {
         Checks.due("O is not shifted", x.register(0, 3), 5);
         Checks.due("spent", x.spent(0), 12);
 
+        PinEngines at = engine("autopull 8", "out x 8;out x 8;jmp a;");
+        at.put(0, 0x1234);
+        at.put(0, 0x5678);
+        at.run(2);
+        Checks.due("at the limit O is refilled", at.register(0, 0), 0x78);
+        Checks.due("count of pulled words", at.count(0, 4), 2);
+        PinEngines last = engine("autopull 32", "out x 31;out x 1;out x 4;jmp a;");
+        last.put(0, -1);
+        last.put(0, 6);
+        last.run(2);
+        Checks.due("below 32 O is not refilled", last.count(0, 4), 1);
+        last.run(1);
+        Checks.due("at 32 O is refilled", last.register(0, 0), 6);
         PinEngines without = ran(1, "", "out x 4;push;");
         Checks.due("without autopull nothing is refilled", without.pc(0), 1);
         PinEngines none = engine("autopull 8 joinout", "out x 4;");
@@ -404,6 +423,13 @@ public final class InstructionTest {
         Checks.due("groups of one pin", Checks.latches(x), 0xA8);
         x.run(1);
         Checks.due("a group takes only its bits", Checks.outputs(x), 0);
+        PinEngines two = Checks.loaded("engine 0 start a setpins 0 2 outpins 8 3;engine 1 start b outpins 4 6;"
+                + "a:set dirs 3;mov osr not null;out dirs 2;set dirs 1;b:mov osr not null;out dirs 6;out dirs 1;push;");
+        int[] dirs = {0x003, 0x3F3, 0x013, 0x011};
+        for (int i = 0; i < dirs.length; i++) {
+            two.run(1);
+            Checks.due("directions of other groups stay, cycle " + i, Checks.outputs(two), dirs[i]);
+        }
         PinEngines none = ran(4, "", "mov pins not null side 15;set pins 31;set dirs 31;out dirs 32;");
         Checks.due("groups of no pin", Checks.latches(none), 0);
         Checks.due("groups of no pin", Checks.outputs(none), 0);
@@ -428,6 +454,12 @@ public final class InstructionTest {
         y.run(1);
         Checks.due("is there for the next one", y.flag(3), 0);
         Checks.due("pc", y.pc(1), 6);
+        PinEngines six = Checks.loaded("engine 0 start a;a:raise 6;raise 5;clear 6;raise 6;push;push;");
+        int[] due = {0x40, 0x60, 0x20, 0x60, 0x60, 0x60};
+        for (int i = 0; i < due.length; i++) {
+            six.run(1);
+            Checks.due("flags after cycle " + i, Checks.flags(six), due[i]);
+        }
         PinEngines z = Checks.loaded("engine 0 start a;engine 1 start b;a:raise 0;push;b:wait 1 flag 0;push;");
         z.run(1);
         Checks.due("a flag is seen only in the cycle after", z.pc(1), 2);
@@ -482,6 +514,12 @@ public final class InstructionTest {
         Checks.due("load y x takes the lowest 4 bits", x.register(0, 1), 0x12345675);
         x.run(1);
         Checks.due("store isr x takes the lowest 4 bits", x.memory(15), 0x12345675);
+        PinEngines odd = engine("", "set x 19;set y 21;store x y;store y x;load osr y;push;");
+        odd.run(4);
+        Checks.due("store x y", odd.memory(5), 19);
+        Checks.due("store y x", odd.memory(3), 21);
+        odd.run(1);
+        Checks.due("load osr y", odd.register(0, 3), 19);
         PinEngines self = engine("", "set x 6;load x x;push;");
         self.poke(6, 77);
         self.run(2);

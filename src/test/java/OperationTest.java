@@ -96,6 +96,16 @@ public final class OperationTest {
         Checks.due("the counts stay", x.count(0, 0), 8);
         x.enable(0, true);
         Checks.due("the counter is as at first", x.run(1), 1);
+        PinEngines half = Checks.loaded("engine 0 start a;a:mov osr not null;in osr 9;out x 5;mov y x;pull;");
+        half.run(6);
+        Checks.due("I before restart", half.register(0, 2), 0x1FF << 23);
+        half.restart(0);
+        for (int which = 0; which < 4; which++) {
+            Checks.due("register " + which + " after restart", half.register(0, which), 0);
+        }
+        Checks.due("fill after restart", half.fill(0), 0);
+        Checks.due("spent after restart", half.spent(0), 32);
+        Checks.due("stall after restart", half.stall(0), 0);
         PinEngines y = Checks.loaded("engine 0 start a sidepins 0 1;a:pull side 1;");
         y.run(3);
         Checks.due("restart of a stalled engine", y.restart(0), 0);
@@ -229,6 +239,22 @@ public final class OperationTest {
             x.schedule(x.clock() + 5, 4, round & 1);
             x.run(11 + round);
         }
+        PinEngines words = Checks.loaded("engine 0 start a joinin;a:pull;");
+        for (int i = 0; i < 8; i++) {
+            words.put(0, i);
+        }
+        words.run(3);
+        String full = Checks.state(words);
+        words.put(0, 8);
+        words.put(0, 9);
+        words.restart(0);
+        for (int i = 0; i < 5; i++) {
+            words.put(0, 100 + i);
+        }
+        for (int i = 0; i < 8; i++) {
+            words.undo();
+        }
+        Checks.due("the words in the queues are restored", Checks.state(words), full);
         // What was done twice, with an undo between, ends in the same state: the counters are restored too.
         x.saveSnapshot();
         x.run(40);
@@ -336,6 +362,8 @@ public final class OperationTest {
         x.enable(1, false);
         Checks.due("the snapshot is kept", x.restoreSnapshot(), true);
         Checks.due("the restored state", Checks.state(x), saved);
+        Checks.due("restoreSnapshot clears the history", x.undoCount(), 0);
+        Checks.due("undo", x.undo(), PinEngines.NONE);
         x.run(5);
         String later = Checks.state(x);
         x.saveSnapshot();

@@ -7,6 +7,7 @@ public final class TextTest {
         feeding();
         loading();
         loadReplacesEverything();
+        reloading();
         loadWithErrorChangesNothing();
         tokens();
         wrongTokens();
@@ -56,6 +57,19 @@ public final class TextTest {
         Checks.illegalArgument("load of 1001 bytes", () -> x.load(1001));
         Checks.due("load of 1000 bytes of space", x.load(1000), 0);
         Checks.due("feed into the emptied buffer", x.feed(0, 0, 0, 0, 0), 20);
+        x.load(0);
+        Checks.due("load of 1000 bytes", Checks.load(x, " ".repeat(995) + "push;"), 1);
+        Checks.due("load of 1000 bytes", Checks.load(x, " ".repeat(996) + "push"), -11);
+        Checks.due("errorPosition at the end of 1000 bytes", x.errorPosition(), 1000);
+        Checks.due("load of 1000 tokens", Checks.load(x, ";".repeat(1000)), -11);
+        Checks.due("load of 1000 tokens", Checks.load(x, "a:push;" + "1".repeat(993)), -11);
+        Checks.due("errorPosition", x.errorPosition(), 7);
+        Checks.due("load of many names", Checks.load(x, "a:push;engine 0 start a" + " wrap a a".repeat(108) + ";"), 1);
+        Checks.feed(x, "raise 12;");
+        Checks.due("load of a part of a number", x.load(7), -11);
+        Checks.due("errorPosition", x.errorPosition(), 7);
+        Checks.feed(x, "many x = pcx");
+        Checks.due("query of a part of a word", x.query(11), 1);
         // Byte by byte, the most significant one first: "a:push;jmp a;push;;" with an error at 18.
         PinEngines y = new PinEngines();
         y.feed(0x613A7075, 0x73683B6A, 0x6D702061, 0x3B707573, 0x683B3B20);
@@ -129,6 +143,54 @@ public final class TextTest {
         Checks.load(x, "engine 2 start z;z:pull;");
         Checks.due("count of stalls after load", x.count(2, 1), 0);
         Checks.due("stall after load", x.stall(2), 0);
+    }
+
+    /** What one program leaves must not be seen in a later one, whose rows may be the same. */
+    private static void reloading() {
+        PinEngines x = new PinEngines();
+        String full = "level 0 1;level 9 1;";
+        for (int e = 0; e < 4; e++) {
+            full += "engine " + e + " start c clock 3 3 wrap c d outpins 3 4 setpins 5 5 sidepins 7 4 inpins 4 jumppin 3"
+                    + " inleft outleft autopush 3 autopull 3 " + (e < 2 ? "joinin;" : "joinout;");
+        }
+        full += "a:wait 1 pin 3 side 3 delay 3;b:mov x not y side 4 delay 4;c:raise 3 side 15 delay 3;store x y;"
+                + "d:in isr 9;push iffull noblock;load x 5;";
+        for (int i = 0; i < 3; i++) {
+            Checks.due("load", Checks.load(x, full), 7);
+            x.poke(0, 7);
+            x.poke(15, 7);
+            x.drive(8, 1);
+            x.run(50);
+        }
+        String plain = "engine 0 start a;engine 1 start a;engine 2 start a;a:push;jmp a;in x 1;out x 1;mov pins not null"
+                + " side 15;set pins 31;set dirs 31;mov osr not null;out x 3;in x 2;pull;";
+        for (int i = 0; i < 3; i++) {
+            Checks.due("load", Checks.load(x, plain), 11);
+            PinEngines y = Checks.loaded(plain);
+            Checks.due("engines", x.engines(), 7);
+            for (int address = 0; address < 11; address++) {
+                Checks.due("format", Checks.format(x, address), Checks.format(y, address));
+            }
+            Checks.due("the state of a later program", Checks.state(x), Checks.state(y));
+            for (int cycle = 0; cycle < 9; cycle++) {
+                x.run(1);
+                y.run(1);
+                Checks.due("the state of a later program", Checks.state(x), Checks.state(y));
+            }
+            Checks.due("the room of its queues", x.put(0, 1) + x.put(0, 1) + x.put(0, 1) + x.put(0, 1) + x.put(0, 1), 8);
+            Checks.due("the room of its queues", x.put(2, 1) + x.put(2, 1) + x.put(2, 1) + x.put(2, 1) + x.put(2, 1), 8);
+        }
+        String straight = "engine 0 start a;engine 1 start a;engine 2 start a;a:in null 1;out null 1;in isr 3;"
+                + "mov pins not null;set pins 31 side 15;set dirs 31;mov osr not null;out x 3;in x 2;mov y pins;jmp pin a;";
+        Checks.load(x, full);
+        x.run(99);
+        Checks.load(x, straight);
+        PinEngines y = Checks.loaded(straight);
+        for (int cycle = 0; cycle < 15; cycle++) {
+            x.run(1);
+            y.run(1);
+            Checks.due("the state of a later program", Checks.state(x), Checks.state(y));
+        }
     }
 
     private static void loadWithErrorChangesNothing() {
@@ -238,6 +300,15 @@ public final class TextTest {
             PinEngines x = new PinEngines();
             Checks.due("load with the label " + word, Checks.load(x, word + ":push;"), -11);
         }
+        String instructions = " jmp wait in out push pull mov raise clear signal set load store engine level ";
+        for (String word : quoted) {
+            if (!instructions.contains(" " + word + " ")) {
+                bad("the quoted word " + word + " at first", word + " 1;", 1, 0);
+            }
+        }
+        for (String sign : ": ( ) < = > , . # A ? ' \"".split(" ")) {
+            bad("the sign " + sign + " at first", sign + " 1;", 1, 0);
+        }
         for (String word : new String[] {"engines", "startt", "xx", "an", "ors", "ma", "a", "z", "place", "test"}) {
             ok("the name " + word, word + ":push;jmp " + word + ";", 2);
         }
@@ -322,6 +393,7 @@ public final class TextTest {
     private static void definedAlready() {
         bad("an engine twice", "a:push;engine 1 start a;engine 1 start a;", 4, 31);
         bad("an engine twice, with zeros", "a:push;engine 1 start a;engine 01 start b;", 4, 31);
+        bad("a name in place of the number", "a:push;engine 0 start a;engine a", 1, 31);
         bad("an engine out of range", "a:push;engine 1 start a;engine 4 start a;", 2, 31);
         bad("a label twice", "a:push;b:push;a:push;", 4, 14);
         bad("a label twice, without colon", "a:push;a push;", 4, 7);
