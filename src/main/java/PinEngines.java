@@ -1933,7 +1933,7 @@ public final class PinEngines {
         }
 
         /** The depth is the number of 'not' and '(' that are open. */
-        int readTest(int depth) {
+        private int readTest(int depth) {
             int holds = readConjunction(depth);
             for (int i = 0; i < MAX_QUERY && tokens.skip(Symbol.OR); i++) {
                 holds |= readConjunction(depth);

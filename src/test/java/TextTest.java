@@ -157,10 +157,11 @@ public final class TextTest {
                 + "d:in isr 9;push iffull noblock;load x 5;";
         for (int i = 0; i < 3; i++) {
             Checks.due("load", Checks.load(x, full), 7);
+            x.run(50);
             x.poke(0, 7);
             x.poke(15, 7);
             x.drive(8, 1);
-            x.run(50);
+            x.run(3);
         }
         String plain = "engine 0 start a;engine 1 start a;engine 2 start a;a:push;jmp a;in x 1;out x 1;mov pins not null"
                 + " side 15;set pins 31;set dirs 31;mov osr not null;out x 3;in x 2;pull;";
@@ -180,16 +181,20 @@ public final class TextTest {
             Checks.due("the room of its queues", x.put(0, 1) + x.put(0, 1) + x.put(0, 1) + x.put(0, 1) + x.put(0, 1), 8);
             Checks.due("the room of its queues", x.put(2, 1) + x.put(2, 1) + x.put(2, 1) + x.put(2, 1) + x.put(2, 1), 8);
         }
-        String straight = "engine 0 start a;engine 1 start a;engine 2 start a;a:in null 1;out null 1;in isr 3;"
-                + "mov pins not null;set pins 31 side 15;set dirs 31;mov osr not null;out x 3;in x 2;mov y pins;jmp pin a;";
-        Checks.load(x, full);
-        x.run(99);
-        Checks.load(x, straight);
-        PinEngines y = Checks.loaded(straight);
-        for (int cycle = 0; cycle < 15; cycle++) {
-            x.run(1);
-            y.run(1);
-            Checks.due("the state of a later program", Checks.state(x), Checks.state(y));
+        String straight = "level 0 1;engine 0 start a;engine 1 start a;engine 2 start a;a:in null 1;out null 1;in isr 3;"
+                + "mov pins not null;set pins 31 side 15;set dirs 31;mov osr not null;out x 3;in x 2;mov y pins;in y 32;"
+                + "jmp pin a;";
+        for (int i = 0; i < 2; i++) {
+            Checks.load(x, full);
+            Checks.load(x, full);
+            x.run(99);
+            Checks.load(x, straight);
+            PinEngines y = Checks.loaded(straight);
+            for (int cycle = 0; cycle < 15; cycle++) {
+                x.run(1);
+                y.run(1);
+                Checks.due("the state of a later program", Checks.state(x), Checks.state(y));
+            }
         }
     }
 
