@@ -1607,7 +1607,7 @@ public final class PinEngines {
                 fail(OUT_OF_RANGE);
                 return low;
             }
-            skip(Symbol.NUMBER);
+            next = Math.min(next + 1, last);
             return number;
         }
 

@@ -7,6 +7,7 @@ final class Checks {
         void make();
     }
 
+    private static String subject = "";
     private static int checked = 0;
     private static int wrong = 0;
 
@@ -47,6 +48,10 @@ final class Checks {
         }
     }
 
+    static void nothingThrown(String call, Call made) {
+        due(call + " threw", thrownBy(made), "nothing");
+    }
+
     /** The name of the exception's class, since a subclass of it is not what the document names. */
     private static String thrownBy(Call made) {
         try {
@@ -60,8 +65,17 @@ final class Checks {
     private static void report(String text) {
         wrong++;
         if (wrong <= 50) {
-            System.out.println(text);
+            System.out.println(subject + text);
         }
+    }
+
+    /** What the next checks are about, to be told with every wrong answer. */
+    static void about(String newSubject) {
+        subject = newSubject;
+    }
+
+    static int checked() {
+        return checked;
     }
 
     static void finish(String test) {
@@ -104,6 +118,17 @@ final class Checks {
         if (count < 0) {
             report("load of '" + text + "' answered " + count + " at " + engines.errorPosition());
         }
+        return engines;
+    }
+
+    /** One engine, number 0, that starts at the first of these instructions, a, and has these settings. */
+    static PinEngines engine(String settings, String instructions) {
+        return loaded("engine 0 start a " + settings + ";a:" + instructions);
+    }
+
+    static PinEngines ran(int cycles, String settings, String instructions) {
+        PinEngines engines = engine(settings, instructions);
+        engines.run(cycles);
         return engines;
     }
 
@@ -176,5 +201,44 @@ final class Checks {
             }
         }
         return s.toString();
+    }
+
+    /** The state as it is now, told by so few calls that an object stays below its 512 calls. */
+    static String brief(PinEngines x) {
+        StringBuilder s = new StringBuilder();
+        s.append(x.clock()).append(' ').append(x.instructionCount()).append(' ').append(x.portOwner()).append(' ')
+                .append(x.undoCount()).append(' ').append(x.errorPosition()).append(' ').append(flags(x));
+        for (int i = 0; i < 16; i++) {
+            s.append('\n').append(x.level(i)).append(x.latch(i)).append(x.isOutput(i)).append(' ').append(x.edges(i))
+                    .append(' ').append(x.highTime(i)).append(' ').append(x.levelAt(i, 0)).append(' ').append(x.memory(i));
+        }
+        for (int e = 0; e < 4; e++) {
+            if ((x.engines() >> e & 1) == 1) {
+                s.append('\n').append(engineState(x, e));
+            }
+        }
+        return s.toString();
+    }
+
+    private static String engineState(PinEngines x, int e) {
+        StringBuilder s = new StringBuilder();
+        s.append(x.pc(e)).append(' ').append(x.fill(e)).append(' ').append(x.spent(e)).append(' ').append(x.delayLeft(e))
+                .append(' ').append(x.stall(e)).append(' ').append(x.isEnabled(e));
+        for (int which = 0; which < 4; which++) {
+            s.append(' ').append(x.register(e, which));
+        }
+        for (int what = 0; what < 6; what++) {
+            s.append(' ').append(x.count(e, what));
+        }
+        return s.append(' ').append(words(x, e, false)).append(words(x, e, true)).toString();
+    }
+
+    /** The words of a queue. */
+    static String words(PinEngines x, int engine, boolean output) {
+        StringBuilder s = new StringBuilder("[");
+        for (int i = 0; i < x.queueSize(engine, output); i++) {
+            s.append(i == 0 ? "" : " ").append(x.queued(engine, output, i));
+        }
+        return s.append(']').toString();
     }
 }

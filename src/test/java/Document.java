@@ -1,0 +1,78 @@
+import java.io.IOException;
+import java.nio.file.Files;
+import java.nio.file.Path;
+import java.util.ArrayList;
+import java.util.LinkedHashMap;
+import java.util.List;
+import java.util.Map;
+import java.util.regex.Matcher;
+import java.util.regex.Pattern;
+
+/** The sections of DOC.md, so that tests can be held against its sentences. */
+final class Document {
+    /** What a sentence that names a boundary case says; it finds some others too, and these get a test as well. */
+    private static final Pattern BOUNDARY = Pattern.compile("Throws|NONE|HIDDEN|exceed|at most|up to|at least|less than"
+            + "|greater than|out of range|empty|full\\b|\\bmod\\b|modulo|\\d to \\d|0 or 1|at first|nothing|already"
+            + "|the last|-2|-4|-10|too early|without the setting|without their settings|at a later|= 32");
+
+    private final Map<String, String> sections = new LinkedHashMap<>();
+
+    private Document() {
+    }
+
+    static Document read() throws IOException {
+        Document document = new Document();
+        String heading = "";
+        for (String line : Files.readAllLines(Path.of("../shared/DOC.md"))) {
+            if (line.startsWith("#")) {
+                heading = line.replaceFirst("^#+ ", "").replaceFirst("^(Promise \\d+):.*", "$1");
+            } else if (!line.isBlank()) {
+                document.sections.merge(heading, line.strip(), (before, added) -> before + "\n" + added);
+            }
+        }
+        return document;
+    }
+
+    boolean says(String heading, String words) {
+        return sections.getOrDefault(heading, "").contains(words);
+    }
+
+    /** The sentences that name a boundary case, each as its heading and its words. */
+    List<String[]> boundarySentences() {
+        List<String[]> found = new ArrayList<>();
+        for (Map.Entry<String, String> section : sections.entrySet()) {
+            if (isPromised(section.getKey())) {
+                for (String sentence : section.getValue().split("(?<=[.;]) (?![.(])|\n")) {
+                    if (isBoundary(sentence)) {
+                        found.add(new String[] {section.getKey(), sentence});
+                    }
+                }
+            }
+        }
+        return found;
+    }
+
+    /** The words that the grammars quote. */
+    List<String> quotedWords() {
+        String text = sections.get("Input text");
+        String grammars = text.substring(text.indexOf("program: clause"), text.indexOf("The name before"));
+        List<String> words = new ArrayList<>();
+        Matcher quoted = Pattern.compile("'([a-z]+)'").matcher(grammars);
+        while (quoted.find()) {
+            if (!words.contains(quoted.group(1))) {
+                words.add(quoted.group(1));
+            }
+        }
+        return words;
+    }
+
+    private static boolean isPromised(String heading) {
+        return heading.startsWith("Promise") || heading.equals("Description") || heading.equals("Program and engines")
+                || heading.equals("One cycle") || heading.equals("Ticks") || heading.equals("Input text")
+                || heading.equals("Operations");
+    }
+
+    private static boolean isBoundary(String sentence) {
+        return BOUNDARY.matcher(sentence).find() && !sentence.matches("`.*\\)( throws .*)?`");
+    }
+}
