@@ -140,6 +140,19 @@ final class BoundariesOfCycles {
         Checks.due("its flag was raised again in the same cycle", wait.flag(0), 1);
     }
 
+    @Sentence(of = "One cycle", says = "6. All flags that are cleared in this cycle become 0, "
+            + "then all that are raised become 1.")
+    static void allEnginesAtOnce() {
+        PinEngines x = Checks.loaded("engine 0 start a;engine 1 start b;engine 2 start c;engine 3 start d;"
+                + "a:raise 0;wait 1 flag 0;raise 0;clear 0;w:jmp w;"
+                + "b:signal 1;jmp w;c:raise 2;clear 2;signal 2;jmp w;d:raise 7;clear 7;raise 7;wait 1 flag 7;jmp w;");
+        int[] flags = {0, 0x87, 0x02, 0x87, 0x06};
+        for (int cycle = 0; cycle < flags.length; cycle++) {
+            Checks.due("the flags after " + cycle + " cycles", Checks.flags(x), flags[cycle]);
+            x.run(1);
+        }
+    }
+
     @Sentence(of = "One cycle", says = "An engine with the clock setting (n, f) has the period 256 * n + f. It has a counter, "
             + "which is period - 256 at first; in every cycle in which it is enabled, 256 is added to the counter, "
             + "and if it is at least the period then, the period is subtracted, and the engine has a tick.")

@@ -206,6 +206,59 @@ final class BoundariesOfGrammar {
         }
     }
 
+    @Sentence(of = "Input text", says = "| separates alternatives.")
+    static void onlyTheAlternatives() throws IOException {
+        only("", " a;a:push;", "jmp");
+        only("", " 1 pin 1;", "wait");
+        only("", " x 1;", "in out set load store");
+        only("", ";", "push pull");
+        only("", " x y;", "mov load store");
+        only("", " 1;", "raise clear signal");
+        only("", " 1 1;", "level");
+        only("a:", " 1;", "raise clear signal");
+        only("a:", ";", "push pull");
+        only("a", "push;", ":");
+        only("push", "", ";");
+        only("a:push;", " 1 start a;", "engine");
+        only("a:push;engine 0 ", " a;", "start");
+        only("a:push;engine 0 start a ", ";", "inleft outleft joinin joinout");
+        only("a:push;engine 0 start a ", " 1;", "inpins jumppin autopush autopull");
+        only("a:push;engine 0 start a ", " 1 1;", "clock outpins setpins sidepins");
+        only("engine 0 start a ", " a a;a:push;", "wrap");
+        only("a:jmp ", " a;", "xzero yzero xdec ydec differ pin more");
+        only("wait 1 ", " 1;", "pin flag");
+        only("in ", " 1;", "pins x y null isr osr");
+        only("out ", " 1;", "pins x y null dirs pc isr");
+        only("push ", ";", "iffull noblock");
+        only("push iffull ", ";", "noblock");
+        only("pull ", ";", "ifempty noblock");
+        only("pull ifempty ", ";", "noblock");
+        only("mov ", " x;", "pins x y pc isr osr");
+        only("mov x ", " x;", "not reverse");
+        only("mov x ", ";", "pins x y null status isr osr");
+        only("mov x not ", ";", "pins x y null status isr osr");
+        only("set ", " 1;", "pins dirs x y");
+        only("load ", " 1;", "x y osr");
+        only("store ", " 1;", "x y isr");
+        only("load x ", ";", "x y");
+        only("push ", " 1;", "side delay");
+        only("push side 1 ", " 1;", "delay");
+    }
+
+    /** Of all quoted words and all signs those, and no others, may stand here: others are an error, or those behind them. */
+    private static void only(String before, String after, String tokens) throws IOException {
+        for (String token : Document.read().quotedWordsAndSigns()) {
+            PinEngines x = new PinEngines();
+            int got = Checks.load(x, before + token + after);
+            boolean allowed = (" " + tokens + " ").contains(" " + token + " ");
+            Checks.due("load of '" + before + token + after + "' has no error", got >= 0, allowed);
+            if (!allowed) {
+                Checks.due("the error of '" + before + token + after + "'", got, -11);
+                Checks.due("its position is not before the token", x.errorPosition() >= before.length(), true);
+            }
+        }
+    }
+
     @Sentence(of = "Input text", says = "* means any number of repetitions, brackets an optional part, "
             + "and | separates alternatives. The ranges of numbers are given in parentheses.")
     static void repetitionsAndOptionalParts() {
@@ -305,7 +358,7 @@ final class BoundariesOfGrammar {
     @Sentence(of = "Input text", says = "If a setting, or the level of a pin, is repeated, or both joins occur, "
             + "the last one counts.")
     static void repeatedSettings() {
-        PinEngines x = Checks.loaded("level 0 1;level 0 0;level 15 0;level 15 1;level 15 1;"
+        PinEngines x = Checks.loaded("level 0 1;level 0 0;level 14 1;level 14 0;level 15 0;level 15 1;level 15 1;"
                 + "engine 0 start b clock 9 9 clock 1 0 wrap a a wrap c b outpins 4 9 outpins 9 1 setpins 3 5 setpins 5 2"
                 + " sidepins 2 4 sidepins 12 1 inpins 3 inpins 0 jumppin 1 jumppin 15;"
                 + "a:push;b:jmp pin c side 3;c:set pins 31;d:mov pins not null;wait 1 pin 15;");
@@ -418,6 +471,8 @@ final class BoundariesOfGrammar {
     static void code4OfEngines() {
         bad("engine 0 start a;engine 0 start a;a:push;", 4, 24);
         bad("engine 3 start a;engine 003 start a;a:push;", 4, 24);
+        bad("engine 0 start a;engine a start a;a:push;", 1, 24);
+        bad("engine 0 start a;engine ;", 1, 24);
         bad("engine 0 start a;engine 1 start a;engine 2 start a;engine 3 start a;engine 0", 4, 75);
         ok("engine 3 start a;engine 2 start a;engine 1 start a;engine 0 start a;a:push;", 1);
     }

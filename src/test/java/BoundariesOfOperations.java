@@ -161,6 +161,20 @@ final class BoundariesOfOperations {
         }
     }
 
+    @Sentence(of = "Promise 30", says = "Operation: makes an engine, its queues and its counter as at first;")
+    static void restartOfAllWords() {
+        PinEngines x = Checks.engine("", "push;mov x not null;mov y not null;mov osr not null;in x 9;out null 5 delay 31;pull;");
+        x.run(6);
+        Checks.due("the words", x.register(0, 0) & x.register(0, 1), -1);
+        Checks.due("fill, spent and delayLeft", x.fill(0) * 10000 + x.spent(0) * 100 + x.delayLeft(0), 90531);
+        Checks.due("restart", x.restart(0), 6);
+        for (int which = 0; which < 4; which++) {
+            Checks.due("register " + which, x.register(0, which), 0);
+        }
+        Checks.due("fill, spent and delayLeft", x.fill(0) * 10000 + x.spent(0) * 100 + x.delayLeft(0), 3200);
+        Checks.due("the instructions done stay", x.count(0, 0), 6);
+    }
+
     @Sentence(of = "Promise 30", says = "Returns the pc that it had.")
     static void restartAtTheEnds() {
         PinEngines x = Checks.loaded("engine 0 start z;" + "push noblock;".repeat(31) + "z:set x 1;");
@@ -468,6 +482,49 @@ final class BoundariesOfOperations {
             case 6: x.poke(3, 123); break;
             case 7: x.run(1); break;
             default: x.run(1000); break;
+        }
+    }
+
+    @Sentence(of = "Operations", says = "Undoing restores everything that the operation changed.")
+    static void undoOfRunsThatChangeEverything() {
+        for (int cycles = 1; cycles <= 17; cycles++) {
+            PinEngines x = Checks.loaded("engine 0 start a setpins 0 5;engine 3 start b setpins 12 3;"
+                    + "a:mov x not x;mov y reverse x;in x 3;out y 5;raise 2;set dirs 21;set pins 10;store x 4;b:push;"
+                    + "pull noblock;clear 2;set dirs 10;set pins 21;load y 3;mov osr not y;raise 5;clear 5;jmp a;");
+            x.put(0, 77);
+            x.put(3, 78);
+            x.run(7 * cycles);
+            String before = Checks.brief(x);
+            x.run(cycles);
+            Checks.due("undo", x.undo(), 3);
+            Checks.due("the state after undo of run(" + cycles + ")", Checks.brief(x), before);
+        }
+    }
+
+    @Sentence(of = "Operations", says = "Undoing restores everything that the operation changed.")
+    static void undoOfWordsInFullQueues() {
+        for (String setting : new String[] {"", "joinin", "joinout"}) {
+            PinEngines x = Checks.engine(setting, "pull noblock;in osr 32;push noblock;");
+            for (int i = 1; i <= 8; i++) {
+                x.put(0, i);
+            }
+            x.run(10);
+            x.put(0, 9);
+            x.put(0, 10);
+            x.saveSnapshot();
+            x.restoreSnapshot();
+            String before = Checks.brief(x);
+            x.take(0);
+            x.restart(0);
+            x.put(0, 11);
+            x.put(0, 12);
+            x.put(0, 13);
+            x.run(20);
+            x.take(0);
+            for (int left = x.undoCount() - 1; left >= 0; left--) {
+                Checks.due("undo", x.undo(), left);
+            }
+            Checks.due("the state after undo of all " + setting, Checks.brief(x), before);
         }
     }
 

@@ -1,3 +1,5 @@
+import java.io.IOException;
+
 /** Promise 46 and the grammar of queries. */
 final class BoundariesOfQueries {
     private BoundariesOfQueries() {
@@ -144,6 +146,28 @@ final class BoundariesOfQueries {
         bad("many 0=" + "9".repeat(190), 2, 7);
     }
 
+    @Sentence(of = "Input text", says = "value ('<' | '=' | '>') value.")
+    static void comparisonsAtTheEnds() {
+        PinEngines x = Checks.engine("", "load x 0;load y 1;load osr 2;");
+        x.poke(0, Integer.MIN_VALUE);
+        x.poke(1, Integer.MAX_VALUE);
+        x.poke(2, -1);
+        x.run(3);
+        String[] ascending = {"x", "osr", "0", "1", "99998", "99999", "y"};
+        for (int i = 0; i < ascending.length; i++) {
+            for (int j = 0; j < ascending.length; j++) {
+                ok(x, "many " + ascending[i] + "<" + ascending[j], i < j ? 1 : 0);
+                ok(x, "many " + ascending[i] + "=" + ascending[j], i == j ? 1 : 0);
+                ok(x, "many " + ascending[i] + ">" + ascending[j], i > j ? 1 : 0);
+            }
+        }
+        bad("many 0<=0", 1, 7);
+        bad("many 0==0", 1, 7);
+        bad("many 0 0", 1, 7);
+        bad("many 0:0", 1, 6);
+        bad("many 0", 1, 6);
+    }
+
     @Sentence(of = "Input text", says = "'engine' (its number), 'pc', 'x', 'y', 'isr', 'osr' (its words), 'fill', 'spent' "
             + "(counts), 'delay' (ticks left), 'stall' (reason), 'input', 'output' (words in its queues)")
     static void propertiesAtTheEnds() {
@@ -222,6 +246,33 @@ final class BoundariesOfQueries {
         bad("many 0=0)", 1, 8);
         bad("many 0=0;", 1, 8);
         bad("many " + "0=0 or ".repeat(27) + "0=0 or", 1, 200);
+    }
+
+    @Sentence(of = "Input text", says = "query: ('many' | 'first') test")
+    static void onlyTheAlternatives() throws IOException {
+        String properties = "engine pc x y isr osr fill spent delay stall input output";
+        only("", " 0=0", "many first");
+        only("many ", "=0", properties);
+        only("many 0=", "", properties);
+        only("many x ", " y", "< = >");
+        only("many ", " 0=0", "not");
+        only("many ", "0=0)", "(");
+        only("many (0=0", "", ")");
+        only("many 0=0 ", " 0=0", "or and");
+    }
+
+    /** Of all quoted words and all signs those, and no others, may stand here. */
+    private static void only(String before, String after, String tokens) throws IOException {
+        PinEngines x = engines();
+        for (String token : Document.read().quotedWordsAndSigns()) {
+            int got = Checks.query(x, before + token + after);
+            boolean allowed = (" " + tokens + " ").contains(" " + token + " ");
+            Checks.due("query '" + before + token + after + "' has no error", got > -10, allowed);
+            if (!allowed) {
+                Checks.due("the error of '" + before + token + after + "'", got, -1000000001);
+                Checks.due("its position is not before the token", x.errorPosition() >= before.length(), true);
+            }
+        }
     }
 
     @Sentence(of = "Promise 46", says = "Reads the first bytes of the buffer as a query")

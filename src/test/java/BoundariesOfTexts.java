@@ -89,6 +89,73 @@ final class BoundariesOfTexts {
         Checks.due("the scheduled levels are gone", x.schedule(0, 0, 0), 1);
     }
 
+    @Sentence(of = "Promise 2", says = "Returns the number of bytes in the buffer; NONE if it would exceed 1000")
+    static void textsOf1000Tokens() {
+        PinEngines x = new PinEngines();
+        Checks.due("load of 1000 signs", Checks.load(x, ";".repeat(1000)), -11);
+        Checks.due("its position", x.errorPosition(), 0);
+        Checks.due("load of 200 times five signs", Checks.load(x, "a:in\n".repeat(200)), -11);
+        Checks.due("its position", x.errorPosition(), 5);
+        Checks.due("load of 1000 digits and signs", Checks.load(x, "level 0 1;".repeat(50) + "1;".repeat(250)), -11);
+        Checks.due("its position", x.errorPosition(), 500);
+    }
+
+    @Sentence(of = "Promise 3", says = "which replaces everything: the clock and all counts are 0, all pins, flags, "
+            + "the memory and the port are as at first (but for the levels that the program gives), "
+            + "and the undo history and the snapshot are discarded.")
+    static void nothingOfAnEarlierProgramStays() {
+        String plain = "level 3 1;level 4 1;engine 0 start a;engine 1 start a;engine 2 start a;a:jmp pin a;jmp b;push;"
+                + "b:in pins 5;mov osr not isr;out x 3;wait 0 pin 0;in y 32;out null 32;out null 1;push;pull noblock;"
+                + "mov pins not null side 15;set pins 31;set dirs 31;raise 0;load y 0;mov isr x;in x 3;";
+        for (int times = 1; times <= 3; times++) {
+            PinEngines x = new PinEngines();
+            for (int i = 0; i < times; i++) {
+                useEverything(x);
+            }
+            Checks.load(x, plain);
+            PinEngines y = Checks.loaded(plain);
+            Checks.due("the state after " + times + " programs", Checks.brief(x), Checks.brief(y));
+            x.run(20);
+            y.run(20);
+            Checks.due("the state after 20 cycles", Checks.brief(x), Checks.brief(y));
+        }
+    }
+
+    @Sentence(of = "Promise 3", says = "which replaces everything: the clock and all counts are 0, all pins, flags, "
+            + "the memory and the port are as at first (but for the levels that the program gives), "
+            + "and the undo history and the snapshot are discarded.")
+    static void noPartOfAnEarlierInstructionStays() {
+        String plain = "a:push;jmp a;wait 0 flag 0;in x 1;mov x y;pull;load x 3;set x 3;out x 3;raise 3;push;jmp a;";
+        for (int times = 1; times <= 3; times++) {
+            PinEngines x = new PinEngines();
+            for (int i = 0; i < times; i++) {
+                useEverything(x);
+            }
+            Checks.load(x, plain);
+            PinEngines y = Checks.loaded(plain);
+            for (int address = 0; address < 12; address++) {
+                Checks.due("format(" + address + ")", Checks.format(x, address), Checks.format(y, address));
+            }
+        }
+    }
+
+    /** A program with every setting, which changes all that there is to change. */
+    private static void useEverything(PinEngines x) {
+        String settings = " start b clock 1 7 wrap b c outpins 3 16 setpins 2 5 sidepins 1 4 inpins 4 jumppin 3 inleft outleft"
+                + " autopush 3 autopull 3 joinout;";
+        Checks.due("load of everything", Checks.load(x, "level 0 1;level 15 1;engine 0" + settings + "engine 1" + settings
+                + "engine 2" + settings + "a:wait 1 pin 3 side 3 delay 3;b:mov x not y side 4 delay 4;mov pins not null side 15 delay 1;"
+                + "mov osr not null;out dirs 32 side 15;raise 3;store x 0;store x y;in x 2 delay 1;push iffull noblock;"
+                + "mov osr reverse x;c:load y 5;"), 12);
+        for (int i = 0; i < 16; i++) {
+            x.poke(i, -7);
+            x.drive(i, i & 1);
+        }
+        x.schedule(40, 8, 1);
+        x.run(39);
+        x.saveSnapshot();
+    }
+
     @Sentence(of = "Promise 3", says = "which replaces everything: the clock and all counts are 0, all pins, flags, "
             + "the memory and the port are as at first (but for the levels that the program gives), "
             + "and the undo history and the snapshot are discarded.")

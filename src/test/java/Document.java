@@ -66,6 +66,17 @@ final class Document {
         return words;
     }
 
+    /** These words, and every sign that can be written but letters and digits. */
+    List<String> quotedWordsAndSigns() {
+        List<String> tokens = quotedWords();
+        for (char sign = '!'; sign <= '~'; sign++) {
+            if (!Character.isLetterOrDigit(sign)) {
+                tokens.add("" + sign);
+            }
+        }
+        return tokens;
+    }
+
     private static boolean isPromised(String heading) {
         return heading.startsWith("Promise") || heading.equals("Description") || heading.equals("Program and engines")
                 || heading.equals("One cycle") || heading.equals("Ticks") || heading.equals("Input text")
