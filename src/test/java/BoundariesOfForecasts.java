@@ -332,6 +332,10 @@ final class BoundariesOfForecasts {
         x.run(5);
         x.undo();
         Checks.due("after undo", x.formattedByte(6), '3');
+        Checks.noSuchElement("format(1)", () -> x.format(1));
+        Checks.noSuchElement("format(-1)", () -> x.format(-1));
+        Checks.due("after a call that throws", x.formattedByte(6), '3');
+        Checks.due("after a call that throws", x.formattedByte(8), PinEngines.NONE);
         x.format(0);
         Checks.due("after a later call", x.formattedByte(6), '0');
         Checks.due("after a later call", x.formattedByte(7), PinEngines.NONE);

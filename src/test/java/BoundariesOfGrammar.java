@@ -1,5 +1,3 @@
-import java.io.IOException;
-
 /** The input text of programs: tokens, names, ranges of numbers, repeated settings and the error codes. */
 final class BoundariesOfGrammar {
     private BoundariesOfGrammar() {
@@ -97,9 +95,9 @@ final class BoundariesOfGrammar {
     }
 
     @Sentence(of = "Input text", says = "A NAME is a word that is not quoted in the grammars of this document.")
-    static void quotedWordsAreNoNames() throws IOException {
+    static void quotedWordsAreNoNames() {
         int words = 0;
-        for (String word : Document.read().quotedWords()) {
+        for (String word : Document.QUOTED_WORDS) {
             words++;
             bad("engine 0 start " + word + ";push;", 1, 15);
             PinEngines x = new PinEngines();
@@ -207,7 +205,7 @@ final class BoundariesOfGrammar {
     }
 
     @Sentence(of = "Input text", says = "| separates alternatives.")
-    static void onlyTheAlternatives() throws IOException {
+    static void onlyTheAlternatives() {
         only("", " a;a:push;", "jmp");
         only("", " 1 pin 1;", "wait");
         only("", " x 1;", "in out set load store");
@@ -246,8 +244,8 @@ final class BoundariesOfGrammar {
     }
 
     /** Of all quoted words and all signs those, and no others, may stand here: others are an error, or those behind them. */
-    private static void only(String before, String after, String tokens) throws IOException {
-        for (String token : Document.read().quotedWordsAndSigns()) {
+    private static void only(String before, String after, String tokens) {
+        for (String token : Document.wordsAndSigns()) {
             PinEngines x = new PinEngines();
             int got = Checks.load(x, before + token + after);
             boolean allowed = (" " + tokens + " ").contains(" " + token + " ");

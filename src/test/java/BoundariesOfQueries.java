@@ -1,5 +1,3 @@
-import java.io.IOException;
-
 /** Promise 46 and the grammar of queries. */
 final class BoundariesOfQueries {
     private BoundariesOfQueries() {
@@ -249,7 +247,7 @@ final class BoundariesOfQueries {
     }
 
     @Sentence(of = "Input text", says = "query: ('many' | 'first') test")
-    static void onlyTheAlternatives() throws IOException {
+    static void onlyTheAlternatives() {
         String properties = "engine pc x y isr osr fill spent delay stall input output";
         only("", " 0=0", "many first");
         only("many ", "=0", properties);
@@ -262,9 +260,9 @@ final class BoundariesOfQueries {
     }
 
     /** Of all quoted words and all signs those, and no others, may stand here. */
-    private static void only(String before, String after, String tokens) throws IOException {
+    private static void only(String before, String after, String tokens) {
         PinEngines x = engines();
-        for (String token : Document.read().quotedWordsAndSigns()) {
+        for (String token : Document.wordsAndSigns()) {
             int got = Checks.query(x, before + token + after);
             boolean allowed = (" " + tokens + " ").contains(" " + token + " ");
             Checks.due("query '" + before + token + after + "' has no error", got > -10, allowed);

@@ -15,15 +15,27 @@ final class Document {
             + "|greater than|out of range|empty|full\\b|\\bmod\\b|modulo|\\d to \\d|0 or 1|at first|nothing|already"
             + "|the last|-2|-4|-10|too early|without the setting|without their settings|at a later|= 32");
 
+    private static final Path PLACE = Path.of("../shared/DOC.md");
+
+    /** The words that the grammars quote. */
+    static final List<String> QUOTED_WORDS = List.of(("engine start level side delay clock wrap outpins setpins sidepins"
+            + " inpins jumppin inleft outleft autopush autopull joinin joinout jmp xzero yzero xdec ydec differ pin more"
+            + " wait flag in pins x y null isr osr out dirs pc push iffull noblock pull ifempty mov not reverse status"
+            + " raise clear signal set load store many first or and fill spent stall input output").split(" "));
+
     private final Map<String, String> sections = new LinkedHashMap<>();
 
     private Document() {
     }
 
+    static boolean isThere() {
+        return Files.exists(PLACE);
+    }
+
     static Document read() throws IOException {
         Document document = new Document();
         String heading = "";
-        for (String line : Files.readAllLines(Path.of("../shared/DOC.md"))) {
+        for (String line : Files.readAllLines(PLACE)) {
             if (line.startsWith("#")) {
                 heading = line.replaceFirst("^#+ ", "").replaceFirst("^(Promise \\d+):.*", "$1");
             } else if (!line.isBlank()) {
@@ -52,7 +64,7 @@ final class Document {
         return found;
     }
 
-    /** The words that the grammars quote. */
+    /** The words that the grammars of the document quote, in their order. */
     List<String> quotedWords() {
         String text = sections.get("Input text");
         String grammars = text.substring(text.indexOf("program: clause"), text.indexOf("The name before"));
@@ -66,9 +78,9 @@ final class Document {
         return words;
     }
 
-    /** These words, and every sign that can be written but letters and digits. */
-    List<String> quotedWordsAndSigns() {
-        List<String> tokens = quotedWords();
+    /** The quoted words, and every sign that can be written but letters and digits. */
+    static List<String> wordsAndSigns() {
+        List<String> tokens = new ArrayList<>(QUOTED_WORDS);
         for (char sign = '!'; sign <= '~'; sign++) {
             if (!Character.isLetterOrDigit(sign)) {
                 tokens.add("" + sign);

@@ -296,17 +296,13 @@ public final class TextTest {
     }
 
     private static void reservedWords() {
-        String[] quoted = ("engine start level side delay clock wrap outpins setpins sidepins inpins jumppin inleft"
-                + " outleft autopush autopull joinin joinout jmp xzero yzero xdec ydec differ pin more wait flag in"
-                + " pins x y null isr osr out dirs pc push iffull noblock pull ifempty mov not reverse status raise"
-                + " clear signal set load store many first or and fill spent stall input output").split(" ");
-        for (String word : quoted) {
+        for (String word : Document.QUOTED_WORDS) {
             bad("the quoted word " + word + " as a name", "engine 0 start " + word + " ;a:push;", 1, 15);
             PinEngines x = new PinEngines();
             Checks.due("load with the label " + word, Checks.load(x, word + ":push;"), -11);
         }
         String instructions = " jmp wait in out push pull mov raise clear signal set load store engine level ";
-        for (String word : quoted) {
+        for (String word : Document.QUOTED_WORDS) {
             if (!instructions.contains(" " + word + " ")) {
                 bad("the quoted word " + word + " at first", word + " 1;", 1, 0);
             }
