@@ -463,6 +463,10 @@ final class BoundariesOfGrammar {
         bad("push;".repeat(32) + "level 0 1;engine 0 start a;push", 3, 187);
         ok("a:" + "push;".repeat(32) + "engine 0 start a;level 15 1;", 32);
         bad("push;".repeat(32) + "xzero;", 1, 160);
+        // The grammar's instruction begins behind the label.
+        bad("push;".repeat(32) + "a:push;", 3, 162);
+        bad("push;".repeat(32) + "a:", 1, 162);
+        bad("push;".repeat(32) + "a", 1, 161);
     }
 
     @Sentence(of = "Input text", says = "4: the number of an engine that is defined already;")
@@ -488,6 +492,7 @@ final class BoundariesOfGrammar {
         ok(labels.toString(), 32);
         bad(labels + "lfb:pull;", 4, 288);
         bad(labels + "laa:pull;", 4, 288);
+        bad(labels + "lgb:pull;", 3, 292);
     }
 
     @Sentence(of = "Input text", says = "5: the first NAME that is not a label.")
