@@ -10,10 +10,14 @@ import java.util.regex.Pattern;
 
 /** The sections of DOC.md, so that tests can be held against its sentences. */
 final class Document {
-    /** What a sentence that names a boundary case says; it finds some others too, and these get a test as well. */
-    private static final Pattern BOUNDARY = Pattern.compile("Throws|NONE|HIDDEN|exceed|at most|up to|at least|less than"
-            + "|greater than|out of range|empty|full\\b|\\bmod\\b|modulo|\\d to \\d|0 or 1|at first|nothing|already"
-            + "|the last|-2|-4|-10|too early|without the setting|without their settings|at a later|= 32");
+    /** Sentences that only lead to others, so that there is nothing to test. */
+    private static final List<String> LEADING = List.of("Words, pins, flags, memory", "An engine has:",
+            "In the cycle with the number c (the clock before), the following is done in this order:",
+            "Otherwise the engine tries its instruction:", "The instructions:", "Error codes.", "The constants:",
+            "The constructor and the methods follow, a promise each: the signature, then what it does.");
+
+    /** A number and a full stop at the beginning of a line are no sentence. */
+    private static final String END_OF_SENTENCE = "(?m)(?<=[.;])(?<!^\\d[.]) (?![.(])|\n";
 
     private static final Path PLACE = Path.of("../shared/DOC.md");
 
@@ -49,13 +53,13 @@ final class Document {
         return sections.getOrDefault(heading, "").contains(words);
     }
 
-    /** The sentences that name a boundary case, each as its heading and its words. */
-    List<String[]> boundarySentences() {
+    /** The sentences that can be tested, each as its heading and its words. */
+    List<String[]> sentences() {
         List<String[]> found = new ArrayList<>();
         for (Map.Entry<String, String> section : sections.entrySet()) {
             if (isPromised(section.getKey())) {
-                for (String sentence : section.getValue().split("(?<=[.;]) (?![.(])|\n")) {
-                    if (isBoundary(sentence)) {
+                for (String sentence : section.getValue().split(END_OF_SENTENCE)) {
+                    if (!LEADING.contains(sentence) && !isSignature(sentence)) {
                         found.add(new String[] {section.getKey(), sentence});
                     }
                 }
@@ -95,7 +99,7 @@ final class Document {
                 || heading.equals("Operations");
     }
 
-    private static boolean isBoundary(String sentence) {
-        return BOUNDARY.matcher(sentence).find() && !sentence.matches("`.*\\)( throws .*)?`");
+    private static boolean isSignature(String sentence) {
+        return sentence.matches("`.*\\)( throws .*)?`");
     }
 }

@@ -3,7 +3,7 @@ import java.lang.annotation.Retention;
 import java.lang.annotation.RetentionPolicy;
 import java.lang.annotation.Target;
 
-/** Marks a test of one sentence of the document; BoundaryTest runs it, and checks that the sentence stands there. */
+/** Marks a test of one sentence of the document; SentenceTest runs it, and checks that the sentence stands there. */
 @Retention(RetentionPolicy.RUNTIME)
 @Target(ElementType.METHOD)
 @interface Sentence {

@@ -7,13 +7,13 @@ import java.util.Comparator;
 import java.util.List;
 
 /**
- * Runs the tests of all sentences of the document that name a boundary case: every method with the
- * annotation Sentence in the parts below. Each such sentence must have a test of its own.
+ * Runs the tests of all sentences of the document: every method with the annotation Sentence in the
+ * parts below. Each sentence must have a test of its own, with the boundary cases that it names.
  */
-public final class BoundaryTest {
+public final class SentenceTest {
     private static final Class<?>[] PARTS = {BoundariesOfTexts.class, BoundariesOfGrammar.class, BoundariesOfState.class,
         BoundariesOfCycles.class, BoundariesOfInstructions.class, BoundariesOfOperations.class,
-        BoundariesOfForecasts.class, BoundariesOfQueries.class};
+        BoundariesOfForecasts.class, BoundariesOfQueries.class, SentencesOfDescription.class, SentencesOfPromises.class};
 
     public static void main(String[] args) throws IOException {
         List<Sentence> tested = new ArrayList<>();
@@ -36,7 +36,7 @@ public final class BoundaryTest {
             System.out.println("DOC.md is not there: the sentences are not compared with it");
         }
         System.out.println(tested.size() + " tests of sentences");
-        Checks.finish("BoundaryTest");
+        Checks.finish("SentenceTest");
     }
 
     private static void run(Method method, Sentence sentence) {
@@ -58,7 +58,7 @@ public final class BoundaryTest {
         for (Sentence test : tested) {
             Checks.due(test.of() + " says '" + test.says() + "'", document.says(test.of(), test.says()), true);
         }
-        for (String[] sentence : document.boundarySentences()) {
+        for (String[] sentence : document.sentences()) {
             boolean found = false;
             for (Sentence test : tested) {
                 boolean same = test.says().contains(sentence[1]) || sentence[1].contains(test.says());
